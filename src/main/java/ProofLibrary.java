@@ -83,7 +83,7 @@ public final class ProofLibrary {
     private final Rules rules = new Rules(library, assertions);
     private final Chart chart = new Chart(library, rules);
     private final Tree tree = new Tree(library, assertions, chart);
-    private final Definitions definitions = new Definitions(library, assertions, rules, tree, pile);
+    private final Definitions definitions = new Definitions(library, assertions, rules, chart, tree, pile);
     private final Paper paper = new Paper(library);
 
     /** Nothing read. */
@@ -280,7 +280,7 @@ public final class ProofLibrary {
         if (!library.isProved(i)) {
             return NONE;
         }
-        long labels = assertions.labels[i];
+        long labels = assertions.labelsOf(i);
         return labels > SIZE ? FULL : labels;
     }
 
@@ -365,7 +365,7 @@ public final class ProofLibrary {
         if (!library.isProved(i)) {
             return NONE;
         }
-        if (assertions.labels[i] > UNPACKED) {
+        if (assertions.labelsOf(i) > UNPACKED) {
             return FULL;
         }
         packer.unpack(i);
@@ -394,8 +394,9 @@ public final class ProofLibrary {
             return FULL;
         }
         rules.learn();
+        definitions.study(i);
         definitions.prepare(i);
-        if (chart.parseStatement(i) != 1) {
+        if (treesOf(i) != 1) {
             return NONE;
         }
         tree.grow();
@@ -423,7 +424,8 @@ public final class ProofLibrary {
             return FULL;
         }
         rules.learn();
-        return chart.parseStatement(i);
+        chart.takeStatement(i);
+        return chart.countTrees();
     }
 
     /** Makes an axiom an equality, or none: how many there are. */
@@ -457,13 +459,13 @@ public final class ProofLibrary {
         if (size > TREE_LENGTH || library.lengthOf(i) > TREE_LENGTH) {
             return FULL;
         }
-        rules.learn();
-        if (chart.parseStatement(i) != 1) {
+        if (asked[0] != library.typeOf(i) || treesOf(i) != 1) {
             return NONE;
         }
         tree.grow();
         tree.keepPattern();
-        if (asked[0] != library.text[library.at[i]] || chart.parseRow(asked, size) != 1) {
+        chart.takeRow(asked, size);
+        if (chart.countTrees() != 1) {
             return NONE;
         }
         tree.grow();
@@ -479,7 +481,7 @@ public final class ProofLibrary {
         useTape();
         int size = 0;
         int at = skipBlanks(tape, 0, length);
-        while (at < length) {
+        for (int turn = 0; turn < length && at < length; turn++) {
             int end = tokenEnd(tape, at, length);
             int s = end == at ? NONE : library.symbolNamed(tape, at, end - at);
             if (s == NONE) {
@@ -544,7 +546,7 @@ public final class ProofLibrary {
         if (!pile.goAgain(i, last) || !pile.isStatement(last, i)) {
             return false;
         }
-        if (assertions.labels[i] <= UNPACKED && !packer.comesBack(i)) {
+        if (assertions.labelsOf(i) <= UNPACKED && !packer.comesBack(i)) {
             return false;
         }
         return assertions.restsOnEarlier(i);
@@ -832,6 +834,9 @@ public final class ProofLibrary {
         /* What was active where each open scope began; first where the text began. */
         private final int[] marks = new int[MARKS * (SCOPES + 1)];
         private int depth;
+        /* Marks of the variables in the frame that is made: the turn in which they were met. */
+        private final int[] met = new int[SYMBOLS];
+        private int turn;
 
         Scopes(Library library) {
             this.library = library;
@@ -913,6 +918,29 @@ public final class ProofLibrary {
             return (apartBits[x * WORDS + (y >> 6)] >>> (y & 63) & 1) != 0;
         }
 
+        /** Marks the variables of an assertion and of the active essential hypotheses. */
+        void markFrame(int i) {
+            turn++;
+            markVariables(i);
+            for (int n = 0; n < hypothesisCount; n++) {
+                if (library.kind[hypotheses[n]] == ESSENTIAL) {
+                    markVariables(hypotheses[n]);
+                }
+            }
+        }
+
+        private void markVariables(int i) {
+            for (int p = library.at[i]; p < library.at[i + 1]; p++) {
+                if (library.floats[p] != NONE) {
+                    met[library.text[p]] = turn;
+                }
+            }
+        }
+
+        boolean isInFrame(int s) {
+            return met[s] == turn;
+        }
+
         /** Whether a symbol is a constant or an active variable. */
         boolean isKnown(int s) {
             return s != NONE && (!library.variable[s] || active[s]);
@@ -931,12 +959,9 @@ public final class ProofLibrary {
         private int hypothesesUsed;
         private final int[] pairAt = new int[STATEMENTS];
         private final int[] pairSize = new int[STATEMENTS];
-        private final char[] pairX = new char[FRAME_PAIRS];
-        private final char[] pairY = new char[FRAME_PAIRS];
+        /* The two symbols of a pair: one times SYMBOLS, and the other. */
+        private final int[] pair = new int[FRAME_PAIRS];
         private int pairs;
-        /* Marks of the variables in a frame: the turn in which they were met. */
-        private final int[] met = new int[SYMBOLS];
-        private int turn;
 
         private final int[] rowAt = new int[STATEMENTS];
         private final int[] rowCount = new int[STATEMENTS];
@@ -946,7 +971,6 @@ public final class ProofLibrary {
         private int rowsUsed;
         private int steps;
         private final long[] rowLabels = new long[STEPS];
-        private final long[] labels = new long[STATEMENTS];
         private final long[] rests = new long[STATEMENTS * WORDS];
         private final int[] kept = new int[4];
 
@@ -971,25 +995,11 @@ public final class ProofLibrary {
 
         /** The frame of the assertion that is being read; false when it would be more than may be. */
         boolean makeFrame(int i) {
-            turn++;
-            markVariables(i);
-            for (int n = 0; n < scopes.hypothesisCount; n++) {
-                if (library.kind[scopes.hypotheses[n]] == ESSENTIAL) {
-                    markVariables(scopes.hypotheses[n]);
-                }
-            }
+            scopes.markFrame(i);
             for (int w = 0; w < WORDS; w++) {
                 rests[i * WORDS + w] = 0;
             }
             return takeHypotheses(i) && takePairs(i);
-        }
-
-        private void markVariables(int i) {
-            for (int p = library.at[i]; p < library.at[i + 1]; p++) {
-                if (library.floats[p] != NONE) {
-                    met[library.text[p]] = turn;
-                }
-            }
         }
 
         private boolean takeHypotheses(int i) {
@@ -997,7 +1007,7 @@ public final class ProofLibrary {
             frameSize[i] = 0;
             for (int n = 0; n < scopes.hypothesisCount; n++) {
                 int h = scopes.hypotheses[n];
-                if (library.kind[h] == FLOATING && met[library.variableOf(h)] != turn) {
+                if (library.kind[h] == FLOATING && !scopes.isInFrame(library.variableOf(h))) {
                     continue;
                 }
                 if (frameSize[i] == FRAME_HYPOTHESES) {
@@ -1016,14 +1026,13 @@ public final class ProofLibrary {
             for (int n = 0; n < scopes.pairCount; n++) {
                 int x = scopes.pairX[n];
                 int y = scopes.pairY[n];
-                if (met[x] != turn || met[y] != turn) {
+                if (!scopes.isInFrame(x) || !scopes.isInFrame(y)) {
                     continue;
                 }
                 if (pairs == FRAME_PAIRS) {
                     return false;
                 }
-                pairX[pairs] = (char) x;
-                pairY[pairs] = (char) y;
+                pair[pairs] = x * SYMBOLS + y;
                 pairs++;
                 pairSize[i]++;
             }
@@ -1051,11 +1060,21 @@ public final class ProofLibrary {
 
         boolean isPair(int i, int s, int t) {
             for (int n = pairAt[i]; n < pairAt[i] + pairSize[i]; n++) {
-                if (pairX[n] == s && pairY[n] == t || pairX[n] == t && pairY[n] == s) {
+                int x = firstOf(n);
+                int y = secondOf(n);
+                if (x == s && y == t || x == t && y == s) {
                     return true;
                 }
             }
             return false;
+        }
+
+        int firstOf(int n) {
+            return pair[n] / SYMBOLS;
+        }
+
+        int secondOf(int n) {
+            return pair[n] % SYMBOLS;
         }
 
         int childCount(int row) {
@@ -1072,9 +1091,13 @@ public final class ProofLibrary {
                     n = Math.min(SIZE + 1, n + rowLabels[rowsUsed + children[c]]);
                 }
                 rowLabels[row] = n;
-                labels[i] = n;
             }
             rowsUsed += count;
+        }
+
+        /** How many labels a theorem's proof has in full, or one more than SIZE. */
+        long labelsOf(int i) {
+            return rowLabels[rowAt[i] + rowCount[i] - 1];
         }
 
         void addRest(int i, int k) {
@@ -1145,7 +1168,8 @@ public final class ProofLibrary {
             begin(text);
             int fault = 0;
             int at = skipBlanks(text, 0, length);
-            while (at < length && fault == 0) {
+            /* A token is a character long, at least. */
+            for (int turn = 0; turn < length && at < length && fault == 0; turn++) {
                 int end = tokenEnd(text, at, length);
                 place = at;
                 fault = end == at ? FAULT_CHAR : token(at, end - at);
@@ -1893,8 +1917,8 @@ public final class ProofLibrary {
         /** Whether what the variables of each pair become is apart, and active so. */
         boolean keepsApart(int i) {
             for (int n = assertions.pairAt[i]; n < assertions.pairAt[i] + assertions.pairSize[i]; n++) {
-                int x = gather(assertions.pairX[n], variablesX);
-                int y = gather(assertions.pairY[n], variablesY);
+                int x = gather(assertions.firstOf(n), variablesX);
+                int y = gather(assertions.secondOf(n), variablesY);
                 if (!areApart(x, y)) {
                     return false;
                 }
@@ -2386,8 +2410,8 @@ public final class ProofLibrary {
             this.rules = rules;
         }
 
-        /** How many trees a statement of at most sixty symbols has: 0, 1, or 2 for more. */
-        int parseStatement(int i) {
+        /** Takes a statement of at most sixty symbols. */
+        void takeStatement(int i) {
             forgetRow();
             length = Math.min(library.lengthOf(i), TREE_LENGTH) - 1;
             for (int k = 0; k < length; k++) {
@@ -2395,11 +2419,11 @@ public final class ProofLibrary {
                 leaf[k] = library.floats[library.at[i] + 1 + k];
             }
             limit = i;
-            return parse(library.typeOf(i));
+            goal = rules.goalRank(library.typeOf(i));
         }
 
-        /** The same for a row of at most sixty symbols by all rules, each variable as its first floating hypothesis. */
-        int parseRow(int[] symbols, int size) {
+        /** Takes a row of at most sixty symbols, for all rules, and each variable as its first floating hypothesis. */
+        void takeRow(int[] symbols, int size) {
             forgetRow();
             length = Math.min(size, TREE_LENGTH) - 1;
             for (int k = 0; k < length; k++) {
@@ -2407,7 +2431,7 @@ public final class ProofLibrary {
                 leaf[k] = library.firstFloat[symbols[k + 1]];
             }
             limit = library.statements;
-            return parse(symbols[0]);
+            goal = rules.goalRank(symbols[0]);
         }
 
         private void forgetRow() {
@@ -2416,13 +2440,13 @@ public final class ProofLibrary {
             }
         }
 
-        private int parse(int first) {
+        /** How many trees what was taken has: 0, 1, or 2 for more. */
+        int countTrees() {
+            if (goal == NONE || length == 0) {
+                return 0;
+            }
             for (int k = 0; k < length; k++) {
                 where[row[k]] |= 1L << k;
-            }
-            goal = rules.goalRank(first);
-            if (goal == NONE || length <= 0) {
-                return 0;
             }
             for (int k = length - 1; k >= 0; k--) {
                 start = k;
@@ -2533,17 +2557,13 @@ public final class ProofLibrary {
             has[cell] |= ends;
             for (int end = start + 1; end <= length; end++) {
                 if ((fresh >>> end & 1) != 0) {
-                    madeBy[span(sort, start, end)] = (char) statement;
+                    madeBy[sort * SPANS + end * (end - 1) / 2 + start] = (char) statement;
                 }
             }
         }
 
-        private static int span(int sort, int from, int to) {
-            return sort * SPANS + to * (to - 1) / 2 + from;
-        }
-
         int ruleOf(int sort, int from, int to) {
-            return madeBy[span(sort, from, to)];
+            return madeBy[sort * SPANS + to * (to - 1) / 2 + from];
         }
 
         /** Adds the trees by rules of one variable, which may go round, until no count changes. */
@@ -2561,12 +2581,9 @@ public final class ProofLibrary {
                 changed = countUnits();
             }
             for (int u = 0; u < rules.units && rules.unitRule[u] < limit; u++) {
-                int to = rules.sortRank(library.typeOf(rules.unitRule[u]));
-                if (total[rules.unitFrom[u]] > 0 && base[to] == 0) {
-                    base[to] = total[to];
+                if (total[rules.unitFrom[u]] > 0) {
+                    int to = rules.sortRank(library.typeOf(rules.unitRule[u]));
                     add(to, 1L << end, total[to] > 1 ? 1L << end : 0, rules.unitRule[u]);
-                } else if (total[to] > 1) {
-                    several[to * TREE_LENGTH + start] |= (long) (total[rules.unitFrom[u]] > 0 ? 1 : 0) << end;
                 }
             }
         }
@@ -2665,37 +2682,40 @@ public final class ProofLibrary {
             int count = library.lengthOf(r) - 1;
             fits[count] = 1L << end;
             for (int k = count - 1; k >= 0; k--) {
-                fits[k] = fitting(first + k, fits[k + 1], start, end);
+                fits[k] = startsOf(first + k, fits[k + 1], start, end);
             }
             int at = start;
             for (int k = 0; k < count; k++) {
-                int f = library.floats[first + k];
                 int next = at + 1;
-                if (f != NONE) {
-                    next = Long.numberOfTrailingZeros(ends(f, at) & fits[k + 1]);
-                    spanFrom[library.text[first + k]] = at;
-                    spanTo[library.text[first + k]] = next;
+                int s = library.text[first + k];
+                if (library.floats[first + k] != NONE) {
+                    long ends = chart.has[sortOf(first + k) * TREE_LENGTH + at] & fits[k + 1];
+                    next = Math.min(Long.numberOfTrailingZeros(ends), end);
+                    spanFrom[s] = at;
+                    spanTo[s] = next;
                 }
                 at = Math.min(next, end);
             }
         }
 
-        private long fitting(int symbolAt, long after, int start, int end) {
+        private int sortOf(int symbolAt) {
             int f = library.floats[symbolAt];
-            if (f == NONE) {
-                return chart.where[library.text[symbolAt]] & after >>> 1;
-            }
-            long places = 0;
-            for (int at = start; at < end; at++) {
-                if ((ends(f, at) & after) != 0) {
-                    places |= 1L << at;
-                }
-            }
-            return places;
+            return library.rank[library.text[library.at[f]]];
         }
 
-        private long ends(int f, int at) {
-            return chart.has[library.rank[library.typeOf(f)] * TREE_LENGTH + at];
+        /** Where a symbol of a rule can start so that what comes behind it can start after it. */
+        private long startsOf(int symbolAt, long after, int start, int end) {
+            if (library.floats[symbolAt] == NONE) {
+                return chart.where[library.text[symbolAt]] & after >>> 1;
+            }
+            int row = sortOf(symbolAt) * TREE_LENGTH;
+            long starts = 0;
+            for (int at = start; at < end; at++) {
+                if ((chart.has[row + at] & after) != 0) {
+                    starts |= 1L << at;
+                }
+            }
+            return starts;
         }
 
         /** Behind a node and all of its tree. */
@@ -2775,12 +2795,12 @@ public final class ProofLibrary {
     static final class Definitions {
         /* Above all symbols: what stands in the place of a variable of the defined rule. */
         private static final int SLOT = SYMBOLS;
-        private static final int CHUNK = 1 << 14;
-        private static final int CHUNKS = 32;
+        private static final int FIRST_ROOM = 1 << 14;
 
         private final Library library;
         private final Assertions assertions;
         private final Rules rules;
+        private final Chart chart;
         private final Tree tree;
         private final Pile pile;
         private int studied;
@@ -2794,7 +2814,7 @@ public final class ProofLibrary {
         private int equalities;
         private int prepared;
         /* What a defined rule stands for, without definitions, with slots for its variables; FULL when too long. */
-        private final char[][] bodies = new char[CHUNKS][];
+        private char[] bodies = new char[FIRST_ROOM];
         private final int[] bodyAt = new int[STATEMENTS];
         private final int[] bodySize = new int[STATEMENTS];
         private int bodiesUsed;
@@ -2802,10 +2822,11 @@ public final class ProofLibrary {
         private int firstTree;
         private int secondTree;
 
-        Definitions(Library library, Assertions assertions, Rules rules, Tree tree, Pile pile) {
+        Definitions(Library library, Assertions assertions, Rules rules, Chart chart, Tree tree, Pile pile) {
             this.library = library;
             this.assertions = assertions;
             this.rules = rules;
+            this.chart = chart;
             this.tree = tree;
             this.pile = pile;
         }
@@ -2825,7 +2846,8 @@ public final class ProofLibrary {
                 if (library.typeOf(i) != rules.provable || library.lengthOf(i) > TREE_LENGTH) {
                     continue;
                 }
-                if (tree.chart.parseStatement(i) == 1) {
+                chart.takeStatement(i);
+                if (chart.countTrees() == 1) {
                     tree.grow();
                     noteUses(i);
                     if (library.kind[i] == AXIOM && !assertions.hasEssential(i) && canDefine(i)) {
@@ -2899,7 +2921,8 @@ public final class ProofLibrary {
         }
 
         private boolean secondHasNoOther(int d) {
-            for (int n = secondTree; n < tree.behind(secondTree); n++) {
+            int end = tree.behind(secondTree);
+            for (int n = secondTree; n < end; n++) {
                 int r = tree.rule[n];
                 if (r == d || library.kind[r] == FLOATING && slots[library.variableOf(r)] == 0) {
                     return false;
@@ -2916,12 +2939,15 @@ public final class ProofLibrary {
             return target[i] - 1;
         }
 
-        /** Makes the bodies of all definitions before a statement. */
+        /** Makes the bodies of all definitions before a statement, which have been studied. */
         void prepare(int end) {
-            study(end);
             for (int i = prepared; i < end; i++) {
                 int d = definedRule(i);
-                if (d != NONE && tree.chart.parseStatement(i) == 1) {
+                if (d == NONE) {
+                    continue;
+                }
+                chart.takeStatement(i);
+                if (chart.countTrees() == 1) {
                     makeBody(i, d);
                 }
             }
@@ -2941,19 +2967,13 @@ public final class ProofLibrary {
                 return;
             }
             int size = pile.size[0];
-            if (bodiesUsed % CHUNK + size > CHUNK) {
-                bodiesUsed = (bodiesUsed / CHUNK + 1) * CHUNK;
-            }
-            int chunk = bodiesUsed / CHUNK;
-            if (chunk >= CHUNKS) {
-                return;
-            }
-            if (bodies[chunk] == null) {
-                bodies[chunk] = new char[CHUNK];
+            /* Few definitions are the rule: room for all that could be is made only when they come. */
+            if (bodiesUsed + size > bodies.length) {
+                bodies = Arrays.copyOf(bodies, 2 * bodies.length);
             }
             bodyAt[d] = bodiesUsed;
             bodySize[d] = size;
-            System.arraycopy(pile.data, pile.at[0], bodies[chunk], bodiesUsed % CHUNK, size);
+            System.arraycopy(pile.data, pile.at[0], bodies, bodiesUsed, size);
             bodiesUsed += size;
         }
 
@@ -3001,13 +3021,11 @@ public final class ProofLibrary {
                 }
                 return fits;
             }
-            int at = bodyAt[r] % CHUNK;
-            char[] body = bodies[bodyAt[r] / CHUNK];
-            if (bodySize[r] == FULL || body == null) {
+            if (bodySize[r] == FULL) {
                 return false;
             }
-            for (int k = at; k < at + bodySize[r] && fits; k++) {
-                fits = body[k] < SLOT ? compose(body[k]) : composeRow(first + body[k] - SLOT);
+            for (int k = bodyAt[r]; k < bodyAt[r] + bodySize[r] && fits; k++) {
+                fits = bodies[k] < SLOT ? compose(bodies[k]) : composeRow(first + bodies[k] - SLOT);
             }
             return fits;
         }
