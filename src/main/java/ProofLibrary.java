@@ -1414,7 +1414,6 @@ public final class ProofLibrary {
                 return FAULT_TWICE;
             }
             library.addLabel(source, from, size);
-            library.at[library.statements + 1] = library.used;
             state = LABELLED;
             return 0;
         }

@@ -137,8 +137,9 @@ public final class DifferentialTest {
 
     private void run() {
         Texts texts = new Texts(seed);
+        int most = texts.mode == 0 ? 14 : 30;
         for (int n = 0; n < 4; n++) {
-            String text = texts.next(4 + texts.chance.nextInt(14), model.now);
+            String text = texts.next(4 + texts.chance.nextInt(most), model.now);
             for (int spoiled = 0; spoiled < 6; spoiled++) {
                 String bad = texts.spoil(text);
                 if (bad.length() > 0) {
@@ -167,10 +168,10 @@ public final class DifferentialTest {
                 same("equate", library.equate(model.statementNamed("we")), model.equate(model.statementNamed("we")));
             }
             compare();
-            for (int k = 0; k < 12; k++) {
+            for (int k = 0; k < 12 && !model.now.statements.isEmpty(); k++) {
                 apply(texts);
             }
-            for (int k = 0; k < 6; k++) {
+            for (int k = 0; k < 6 && !model.now.statements.isEmpty(); k++) {
                 find(texts);
             }
         }

@@ -20,6 +20,8 @@ final class Texts {
     }
 
     final Random chance;
+    /** What there is most of: 1 syntax axioms, 2 definitions, 3 theorems, 4 hypotheses and what is apart. */
+    final int mode;
     final Model model = new Model();
     private final Deque<Model.State> scopes = new ArrayDeque<>();
     private final StringBuilder text = new StringBuilder();
@@ -31,6 +33,7 @@ final class Texts {
 
     Texts(long seed) {
         chance = new Random(seed);
+        mode = chance.nextInt(5);
     }
 
     /** A text that reads without fault behind what the model has read. */
@@ -88,7 +91,12 @@ final class Texts {
     }
 
     private void statement() {
-        switch (chance.nextInt(22)) {
+        int sort = chance.nextInt(22);
+        if (mode > 0 && chance.nextInt(3) > 0) {
+            int[][] favoured = {{}, {10, 11, 8, 5}, {12, 12, 8, 9}, {15, 15, 15, 8}, {0, 2, 4, 5, 7, 15}};
+            sort = favoured[mode][chance.nextInt(favoured[mode].length)];
+        }
+        switch (sort) {
             case 0:
                 add("${");
                 return;
@@ -289,7 +297,7 @@ final class Texts {
         for (int h : model.now.activeHyps) {
             pool.add(node(h, new ArrayList<>(), model.now.statements.get(h).symbols));
         }
-        for (int n = 0; n < 12; n++) {
+        for (int n = mode == 3 ? 30 : 12; n > 0; n--) {
             derive();
         }
         List<Node> good = new ArrayList<>();
