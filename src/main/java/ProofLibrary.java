@@ -2680,7 +2680,7 @@ public final class ProofLibrary {
             int first = library.at[r] + 1;
             int count = library.lengthOf(r) - 1;
             fits[count] = 1L << end;
-            for (int k = count - 1; k >= 0; k--) {
+            for (int k = count - 1; k > 0; k--) {
                 fits[k] = startsOf(first + k, fits[k + 1], start, end);
             }
             int at = start;

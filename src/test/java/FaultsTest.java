@@ -240,6 +240,34 @@ public final class FaultsTest {
         r.faulty("f2 $f set ^y", 7);
         r.faulty("f2 $f set x $. ${ $v x2 $. f3 $f set x2 $. $} ^$}", 4);
         r.reads("f2 $f wff x $.");
+        r = new Runs("types that are kept, and not");
+        r.reads("$c wff set $. $v x y $. ${ fx $f wff x $. $}");
+        r.faulty("fy $f set y $. ${ f2 $f wff x $. $} ^$.", 4);
+        r.faulty("f2 $f set ^x $.", 12);
+        r.reads("fy $f wff y $. ${ f2 $f wff x $. $} ${ f3 $f wff x $. $}");
+        takenBackOften();
+    }
+
+    /** What faulty texts used is free again, however often. */
+    private static void takenBackOften() {
+        Runs r = new Runs("taken back often");
+        StringBuilder b = new StringBuilder("$c t $. $v x $. fx $f t x $. ax $a t $. ${ h $e t $. on $a t $. $} ");
+        for (int n = 0; n < 59; n++) {
+            b.append("h").append(n).append(" $e t x $. ");
+        }
+        r.reads(b.toString());
+        for (int n = 0; n < 1600; n++) {
+            r.faulty("l $a t $. ^$.", 4);
+        }
+        String long1 = "th $p t $= ( ax on ) " + Model.letters(61) + Runs.times(Model.letters(62), 6000) + " $. ";
+        for (int n = 0; n < 5; n++) {
+            r.faulty(long1 + "^$.", 4);
+        }
+        r.reads(long1);
+        r.due("rows(th)", r.x.rows(63), 6001);
+        for (int n = 0; n < 3; n++) {
+            r.reads(Runs.times("${ $v y $. $} ", 800));
+        }
     }
 
     public static void main(String[] args) {

@@ -71,8 +71,10 @@ public final class LimitsTest {
 
     private static void statements() {
         Runs r = new Runs("statements");
-        r.reads("$c a $. " + numbered("l# $a a $.", 0, 1499));
-        r.reads("${ l1499 $e a $. $}");
+        r.reads("$c a " + numbered("c#", 0, 999) + "$. " + numbered("l# $a a $.", 0, 1498));
+        r.reads("m $p a $= l1490 $. ${ n $e a $. $}");
+        r.due("rests(1498, 1490)", r.x.rests(1498, 1490), 1);
+        r.due("frame(1498, 2)", r.x.frame(1498, 2), 1);
         r.faulty("^l1500 $a a $.", 5);
         r.faulty("^l0 $a a $.", 5);
         r.faulty("^+ $a a $.", 5);
@@ -230,6 +232,7 @@ public final class LimitsTest {
         q.faulty("l $p t x $= ( x3 x37 x2 ) ABBBC ^$.", 19);
         q.faulty("l $p t x $= ( x3 x37 x1 ) ABBBC^B $.", 5);
         q.faulty("l $p t x $= ( x2 x1 ) ABBBCC^C $.", 5);
+        manyRows();
         Runs p = new Runs("forty thousand");
         p.reads("$c t $. $v x $. fx $f t x $. x3 $a t x x x $. x37 $a t " + Runs.times("x ", 37) + "$. none $a t $.");
         /* Each row has a thousand symbols. */
@@ -243,6 +246,18 @@ public final class LimitsTest {
         p.faulty("l $p t x $= ( x3 x37 none ) " + Runs.times("ABBBC", 20) + Runs.times("ABBBCZ", 10) + " ^$.", 18);
         p.faulty("l $p t x $= ( x3 x37 none ) " + Runs.times("ABBBC", 20) + Runs.times("ABBBCZ", 10) + "^D $.", 5);
         p.faulty("l $p t x $= ( x3 x37 none ) " + Runs.times("ABBBC", 21) + Runs.times("ABBBCZ", 9) + "ABBB^CZ $.", 5);
+    }
+
+    /** Rows that are used up make room: 60000 symbols in all, five at a time. */
+    private static void manyRows() {
+        Runs r = new Runs("many rows");
+        r.reads("$c t u $. ax $a t u u u u $. ${ h $e t u u u u $. on $a t u u u u $. $}");
+        r.reads("th $p t u u u u $= ( ax on ) A" + Runs.times("B", 12000) + " $.");
+        r.due("rows(3)", r.x.rows(3), 12001);
+        for (int n = 0; n < 3; n++) {
+            r.prints(3, 3, 12000, "t u u u u");
+        }
+        r.due("check()", r.x.check(), 1);
     }
 
     /** Each theorem puts the row of the one before it to use twice: sizes 4, 10, 22, .. */

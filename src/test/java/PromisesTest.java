@@ -315,6 +315,15 @@ public final class PromisesTest {
         c.prints(6, 7, 0, "fx a b");
         c.due("trees(j)", c.x.trees(9), 2);
         c.due("trees(fx)", c.x.trees(0), 1);
+        c = new Runs("a circle that is not reached");
+        c.reads("$c |- wff s t u a b $. $v x y z $. fx $f s x $. fy $f t y $. fz $f u z $. sa $a s a $. ub $a u b $. wu $a wff z $. ws $a wff x $. "
+            + "st $a s y $. ts $a t x $. ga $a |- a $. gb $a |- b $.");
+        c.due("trees(ga)", c.x.trees(9), 2);
+        c.due("trees(gb)", c.x.trees(10), 1);
+        c.prints(6, 10, 0, "ub wu");
+        c = new Runs("a rule of sixty symbols");
+        c.reads("$c |- wff k $. w $a wff " + Runs.times("k ", 59) + "$. g $a |- " + Runs.times("k ", 59) + "$.");
+        c.prints(6, 1, 0, "w");
     }
 
     private static final String EQUAL = "$c |- wff = , ( ) k n o d0 d1 d2 d3 $. $v x y z $. fx $f wff x $. fy $f wff y $. fz $f wff z $. "
@@ -363,6 +372,11 @@ public final class PromisesTest {
         r.prints(7, 14, 0, "|- ( d1 y x = ( n n y , k ) )");
         r.due("equate(we)", r.x.equate(3), 0);
         r.prints(7, 19, 0, "|- o d0 d1 k n d0 z d2");
+        r = new Runs("a definition of sixty symbols");
+        r.reads(EQUAL + "s0 $a wff d0 $. a0 $a |- ( d0 = " + Runs.times("n ", 54) + "k ) $.");
+        r.due("length(a0)", r.x.length(9), 60);
+        r.due("equate(we)", r.x.equate(3), 1);
+        r.due("definition(a0)", r.x.definition(9), 8);
         definitionsByAnother();
         definitionsInTheWay();
         longWithout();
@@ -417,6 +431,8 @@ public final class PromisesTest {
         b.append("c0 $a wff p0 x y $. v10 $a |- ( p0 x y = y ) $. ");
         b.append("g $a |- e9 k $. h $a |- e8 e6 e4 e2 e1 k $. i $a |- p0 e9 e9 k e3 k $. j $a |- p0 k e9 e9 k $. ");
         b.append("l $a |- e9 e6 e4 e2 e1 k $. m $a |- e9 e6 e4 e2 e1 n k $. ");
+        b.append("c1 $a wff p1 x $. v11 $a |- ( p1 x = e9 e9 x ) $. q $a |- p1 k $. q0 $a |- p0 p1 k k $. q1 $a |- n p1 k $. ");
+        b.append("u $a |- ( e9 e6 e4 n n k = k ) $. u1 $a |- ( e9 e6 e4 n n n k = k ) $. ");
         r.reads(b.toString());
         r.due("equate(we)", r.x.equate(3), 1);
         r.prints(7, 30, 0, "|- " + Runs.times("n ", 512) + "k");
@@ -425,6 +441,11 @@ public final class PromisesTest {
         r.printsNot(7, 33, 0, -2);
         r.prints(7, 34, 0, "|- " + Runs.times("n ", 512 + 64 + 16 + 4 + 2) + "k");
         r.printsNot(7, 35, 0, -2);
+        r.printsNot(7, 38, 0, -2);
+        r.prints(7, 39, 0, "|- k");
+        r.printsNot(7, 40, 0, -2);
+        r.prints(7, 41, 0, "|- ( " + Runs.times("n ", 594) + "k = k )");
+        r.printsNot(7, 42, 0, -2);
         r.due("check()", r.x.check(), 1);
     }
 
@@ -466,6 +487,11 @@ public final class PromisesTest {
         r.applies(r.finds("ne", 0), sixty + " p", -2, was);
         r.applies(r.finds("ne", 0), sixty + " nothing", -1, was);
         r.applies(0, sixty + " p", -1, was);
+        r.reads("most $a |- " + Runs.times("-. ", 58) + "p $.");
+        r.applies(r.finds("most", 0), sixty, 0, "");
+        r.applies(r.finds("most", 0), "|- p", -1, "");
+        r.applies(r.finds("back", 0), "|- -. -. p", 1, "|- p p");
+        was = r.shown();
         r.applies(r.finds("lo", 0), "|- p", -2, was);
         r.applies(r.finds("lo", 0), "|- nothing", -1, was);
         inactive();
