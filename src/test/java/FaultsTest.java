@@ -242,9 +242,14 @@ public final class FaultsTest {
         r.reads("f2 $f wff x $.");
         r = new Runs("types that are kept, and not");
         r.reads("$c wff set $. $v x y $. ${ fx $f wff x $. $}");
-        r.faulty("fy $f set y $. ${ f2 $f wff x $. $} ^$.", 4);
+        r.faulty("z1 $a wff $. z2 $a wff $. fy $f set y $. ${ f2 $f wff x $. $} ^$.", 4);
         r.faulty("f2 $f set ^x $.", 12);
+        r.faulty("fy $f wff y $. $v w $. $d x y $. ${ $v z $. ${ ^$.", 4);
+        r.faulty("ax $a wff $. ay $a wff $. ^$.", 4);
+        r.faulty("l $p wff $= ^l $.", 13);
         r.reads("fy $f wff y $. ${ f2 $f wff x $. $} ${ f3 $f wff x $. $}");
+        r.reads("${ f4 $f wff x $. $v w $. fw $f wff w $. a $a wff x y $. $}");
+        r.due("frame(a, 1)", r.x.frame(6, 1), 0);
         takenBackOften();
     }
 

@@ -67,6 +67,20 @@ public final class LimitsTest {
         r.due("count(1)", r.x.count(1), 1000);
         r.due("variable(999)", r.x.variable(999), 1);
         r.due("variable(1000)", r.x.variable(1000), -1);
+        r = new Runs("many variables");
+        r.reads("$c t $. $v " + numbered("v#", 0, 999) + "$. $d v10 v900 v998 v63 $. $d v11 v999".replace("v999", "v935 $."));
+        r.reads(numbered("f# $f t v# $.", 0, 12) + numbered("f# $f t v# $.", 62, 65) + numbered("f# $f t v# $.", 899, 902)
+            + "f935 $f t v935 $. " + numbered("f# $f t v# $.", 996, 999) + "${ $d v0 v1 $. ax $a t v0 v1 $. $}");
+        String[] met = {"v10 v900", "v998 v900", "v63 v900", "v10 v998", "v935 v11", "v63 v10"};
+        for (String p : met) {
+            String[] two = p.split(" ");
+            r.reads("th" + p.replace(' ', '.') + " $p t " + p + " $= f" + two[0].substring(1) + " f" + two[1].substring(1) + " ax $.");
+        }
+        String[] free = {"v10 v899", "v9 v900", "v11 v900", "v10 v10", "v64 v900", "v62 v900", "v11 v0", "v997 v900", "v900 v9", "v935 v10", "v1 v998"};
+        for (String p : free) {
+            String[] two = p.split(" ");
+            r.faulty("th $p t " + p + " $= f" + two[0].substring(1) + " f" + two[1].substring(1) + " ^ax $.", 17);
+        }
     }
 
     private static void statements() {
@@ -284,6 +298,32 @@ public final class LimitsTest {
             size = 2 * size + 2;
         }
         r.due("check()", r.x.check(), 1);
+        r = new Runs("sizes to the last");
+        r.reads("$c t $. zero $a t $. ${ h $e t $. one $a t $. k $e t $. two $a t $. $}");
+        sizeOf(r, 1000000000000000000L);
+        sizeOf(r, 1000000000000000001L);
+        sizeOf(r, 999999999999999999L);
+        sizeOf(r, 4001);
+    }
+
+    /** A proof of this size: the axiom one is one more than its row, two is one more than its two rows. */
+    private static void sizeOf(Runs r, long size) {
+        int i = r.x.count(0);
+        StringBuilder kinds = new StringBuilder();
+        for (long left = size; left > 1; left = left % 2 == 0 ? left - 1 : (left - 1) / 2) {
+            kinds.append(left % 2 == 0 ? 'B' : 'C');
+        }
+        StringBuilder letters = new StringBuilder("A");
+        int saved = 0;
+        for (char c : kinds.reverse().toString().toCharArray()) {
+            if (c == 'C') {
+                saved++;
+                letters.append('Z').append(Model.letters(3 + saved));
+            }
+            letters.append(c);
+        }
+        r.reads("size" + i + " $p t $= ( zero one two ) " + letters + " $.");
+        r.due("size", r.x.size(i), size > 1000000000000000000L ? -2 : size);
     }
 
     private static void printing() {
@@ -298,6 +338,7 @@ public final class LimitsTest {
         q.reads("th $p t $= l x3 l x3 end $.");
         q.due("print(3)", q.x.print(3, 6, 1), 1 + 393 * 61);
         q.reads("ti $p t $= l x3 one l x3 one end $.");
+        q.prints(0, 0, 0, "fx");
         q.printsNot(3, 7, 2, -2);
         labelsPrinted();
     }
@@ -336,7 +377,7 @@ public final class LimitsTest {
         for (int n = 1; n <= 371; n++) {
             letters.append(Model.letters(n));
         }
-        r.due("print(4)", r.x.print(4, 403, 0), 1 + 5 + 370 * 61 + 2 + 1 + letters.length());
+        r.prints(4, 403, 0, "( zero " + numbered(l + "#", 100, 470) + ") " + letters);
     }
 
     public static void main(String[] args) {

@@ -12,6 +12,10 @@ public final class PromisesTest {
         for (int what = 0; what < 10; what++) {
             r.due("count(" + what + ")", r.x.count(what), 0);
         }
+        r.reads("$c ! ~ !~ $.");
+        r.due("find ~", r.finds("~", 1), 1);
+        r.due("find !~", r.finds("!~", 1), 2);
+        r = new Runs("a new object");
         r.due("NONE", ProofLibrary.NONE, -1);
         r.due("FULL", ProofLibrary.FULL, -2);
         r.due("place()", r.x.place(), -1);
@@ -447,6 +451,20 @@ public final class PromisesTest {
         r.prints(7, 41, 0, "|- ( " + Runs.times("n ", 594) + "k = k )");
         r.printsNot(7, 42, 0, -2);
         r.due("check()", r.x.check(), 1);
+        StringBuilder more = new StringBuilder();
+        for (int n = 0; n < 50; n++) {
+            more.append("$c r").append(n).append(" $. wr").append(n).append(" $a wff r").append(n).append(" x $. dr").append(n)
+                .append(" $a |- ( r").append(n).append(" x = e9 e2 ").append(Runs.times("n ", n)).append("x ) $. ");
+        }
+        r.reads(more + "z0 $a |- r49 k $. z1 $a |- r0 k $. z2 $a |- r30 r0 k $.");
+        for (int round = 0; round < 3; round++) {
+            r.prints(7, 143, 0, "|- " + Runs.times("n ", 516 + 49) + "k");
+            r.prints(7, 144, 0, "|- " + Runs.times("n ", 516) + "k");
+            r.printsNot(7, 145, 0, -2);
+            r.due("equate(we)", r.x.equate(3), 0);
+            r.prints(7, 143, 0, "|- r49 k");
+            r.due("equate(we)", r.x.equate(3), 1);
+        }
     }
 
     /** Promise 25. */
