@@ -628,7 +628,7 @@ public final class ProofLibrary {
         private final int[] labelName = new int[STATEMENTS];
         private final int[] kind = new int[STATEMENTS];
         private final int[] at = new int[STATEMENTS + 1];
-        private final char[] text = new char[ALL_STATEMENTS];
+        private final int[] text = new int[ALL_STATEMENTS];
         /* Of each variable in the text the floating hypothesis that was active for it. */
         private final int[] floats = new int[ALL_STATEMENTS];
         private int used;
@@ -717,7 +717,7 @@ public final class ProofLibrary {
         }
 
         void append(int s, int floating) {
-            text[used] = (char) s;
+            text[used] = s;
             floats[used] = floating;
             used++;
             at[statements + 1] = used;
@@ -955,7 +955,7 @@ public final class ProofLibrary {
         private final Scopes scopes;
         private final int[] frameAt = new int[STATEMENTS];
         private final int[] frameSize = new int[STATEMENTS];
-        private final char[] hypotheses = new char[ALL_HYPOTHESES];
+        private final int[] hypotheses = new int[ALL_HYPOTHESES];
         private int hypothesesUsed;
         private final int[] pairAt = new int[STATEMENTS];
         private final int[] pairSize = new int[STATEMENTS];
@@ -965,9 +965,9 @@ public final class ProofLibrary {
 
         private final int[] rowAt = new int[STATEMENTS];
         private final int[] rowCount = new int[STATEMENTS];
-        private final char[] rowStatement = new char[STEPS];
+        private final int[] rowStatement = new int[STEPS];
         private final int[] childAt = new int[STEPS + 1];
-        private final char[] children = new char[STEPS];
+        private final int[] children = new int[STEPS];
         private int rowsUsed;
         private int steps;
         private final long[] rowLabels = new long[STEPS];
@@ -1013,7 +1013,7 @@ public final class ProofLibrary {
                 if (frameSize[i] == FRAME_HYPOTHESES) {
                     return false;
                 }
-                hypotheses[hypothesesUsed] = (char) h;
+                hypotheses[hypothesesUsed] = h;
                 hypothesesUsed++;
                 frameSize[i]++;
             }
@@ -1782,7 +1782,7 @@ public final class ProofLibrary {
                     return FAULT_FEW;
                 }
                 for (int h = 0; h < taken; h++) {
-                    assertions.children[first + h] = (char) pileRow[pileRows - taken + h];
+                    assertions.children[first + h] = pileRow[pileRows - taken + h];
                 }
                 if (!pile.bind(i, first)) {
                     return FAULT_MATCH;
@@ -1794,7 +1794,7 @@ public final class ProofLibrary {
                     return FAULT_FULL;
                 }
             }
-            assertions.rowStatement[row] = (char) i;
+            assertions.rowStatement[row] = i;
             assertions.childAt[row + 1] = first + taken;
             for (int h = 0; h < taken; h++) {
                 symbols -= pile.size[assertions.children[first + h]];
@@ -1840,13 +1840,13 @@ public final class ProofLibrary {
         private final Assertions assertions;
         private final Scopes scopes;
         /* Rows that are used once stand from the start on, the last one made behind; the others from the end. */
-        private final char[] data = new char[ROOM];
+        private final int[] data = new int[ROOM];
         private int low;
         private int high;
         private final int[] at = new int[STEPS];
         private final int[] size = new int[STEPS];
         private final int[] uses = new int[STEPS];
-        private final char[] built = new char[ROW_LENGTH];
+        private final int[] built = new int[ROW_LENGTH];
         private int builtSize;
         private final int[] becomesAt = new int[SYMBOLS];
         private final int[] becomesSize = new int[SYMBOLS];
@@ -1963,7 +1963,7 @@ public final class ProofLibrary {
             for (int p = library.at[i]; p < library.at[i + 1]; p++) {
                 int s = library.text[p];
                 if (library.floats[p] == NONE) {
-                    built[builtSize] = (char) s;
+                    built[builtSize] = s;
                     builtSize++;
                 } else {
                     System.arraycopy(data, becomesAt[s], built, builtSize, becomesSize[s]);
@@ -2066,7 +2066,7 @@ public final class ProofLibrary {
         private final int[] stackRow = new int[STEPS];
         private final int[] stackNext = new int[STEPS];
         private int depth;
-        private final char[] full = new char[UNPACKED];
+        private final int[] full = new int[UNPACKED];
         private int fullCount;
         private final int[] starts = new int[STEPS];
         private int base;
@@ -2385,7 +2385,7 @@ public final class ProofLibrary {
     static final class Chart {
         private final Library library;
         private final Rules rules;
-        private final char[] row = new char[TREE_LENGTH];
+        private final int[] row = new int[TREE_LENGTH];
         private final int[] leaf = new int[TREE_LENGTH];
         private int length;
         private int limit;
@@ -2395,7 +2395,7 @@ public final class ProofLibrary {
         /* For each sort and start the ends where it has a tree, and where it has several. */
         private final long[] has = new long[FIRST_SYMBOLS * TREE_LENGTH];
         private final long[] several = new long[FIRST_SYMBOLS * TREE_LENGTH];
-        private final char[] madeBy = new char[FIRST_SYMBOLS * SPANS];
+        private final int[] madeBy = new int[FIRST_SYMBOLS * SPANS];
         private int start;
         private final int[] stackNode = new int[TREE_LENGTH + 1];
         private final long[] stackHas = new long[TREE_LENGTH + 1];
@@ -2426,7 +2426,7 @@ public final class ProofLibrary {
             forgetRow();
             length = Math.min(size, TREE_LENGTH) - 1;
             for (int k = 0; k < length; k++) {
-                row[k] = (char) symbols[k + 1];
+                row[k] = symbols[k + 1];
                 leaf[k] = library.firstFloat[symbols[k + 1]];
             }
             limit = library.statements;
@@ -2556,7 +2556,7 @@ public final class ProofLibrary {
             has[cell] |= ends;
             for (int end = start + 1; end <= length; end++) {
                 if ((fresh >>> end & 1) != 0) {
-                    madeBy[sort * SPANS + end * (end - 1) / 2 + start] = (char) statement;
+                    madeBy[sort * SPANS + end * (end - 1) / 2 + start] = statement;
                 }
             }
         }
@@ -2621,11 +2621,11 @@ public final class ProofLibrary {
         private final Assertions assertions;
         private final Chart chart;
         /* A rule, then the tree of its last mandatory hypothesis with all its own, .. , then that of the first one. */
-        private final char[] rule = new char[NODES];
-        private final char[] from = new char[NODES];
-        private final char[] to = new char[NODES];
+        private final int[] rule = new int[NODES];
+        private final int[] from = new int[NODES];
+        private final int[] to = new int[NODES];
         private int size;
-        private final char[] pattern = new char[NODES];
+        private final int[] pattern = new int[NODES];
         private int patternSize;
         private final int[] cells = new int[CELLS];
         private final long[] fits = new long[TREE_LENGTH + 1];
@@ -2653,9 +2653,9 @@ public final class ProofLibrary {
                 int start = cells[waiting] / TREE_LENGTH % TREE_LENGTH;
                 int end = cells[waiting] % TREE_LENGTH;
                 int r = chart.ruleOf(sort, start, end);
-                rule[size] = (char) r;
-                from[size] = (char) start;
-                to[size] = (char) end;
+                rule[size] = r;
+                from[size] = start;
+                to[size] = end;
                 size++;
                 if (library.kind[r] == FLOATING) {
                     continue;
@@ -2813,7 +2813,7 @@ public final class ProofLibrary {
         private int equalities;
         private int prepared;
         /* What a defined rule stands for, without definitions, with slots for its variables; FULL when too long. */
-        private char[] bodies = new char[FIRST_ROOM];
+        private int[] bodies = new int[FIRST_ROOM];
         private final int[] bodyAt = new int[STATEMENTS];
         private final int[] bodySize = new int[STATEMENTS];
         private int bodiesUsed;
@@ -2988,7 +2988,7 @@ public final class ProofLibrary {
                 boolean fits = true;
                 if (library.kind[r] == FLOATING) {
                     int v = library.variableOf(r);
-                    pile.built[0] = (char) (slots[v] == 0 ? v : slots[v]);
+                    pile.built[0] = slots[v] == 0 ? v : slots[v];
                     pile.builtSize = 1;
                 } else {
                     int taken = assertions.frameSize[r];
@@ -3033,7 +3033,7 @@ public final class ProofLibrary {
             if (pile.builtSize + 1 >= WITHOUT_LENGTH) {
                 return false;
             }
-            pile.built[pile.builtSize] = (char) s;
+            pile.built[pile.builtSize] = s;
             pile.builtSize++;
             return true;
         }
@@ -3098,7 +3098,7 @@ public final class ProofLibrary {
             putName(library.symbolName[s]);
         }
 
-        void putSymbols(char[] symbols, int from, int to) {
+        void putSymbols(int[] symbols, int from, int to) {
             for (int k = from; k < to && !overflow; k++) {
                 putSymbol(symbols[k]);
             }
