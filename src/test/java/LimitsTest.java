@@ -229,6 +229,15 @@ public final class LimitsTest {
         r.faulty("c $p t $= ( l0 ) A " + Runs.times("U", 9) + "^A $.", 5);
         r.faulty("c $p t $= ( l0 ) A " + Runs.times("U", 9) + "^U $.", 5);
         r.faulty("c $p t $= ( l0 ) A " + Runs.times("Y", 8) + "^? $.", 14);
+        r.faulty("c $p t $= ( l0 ) A " + before(1000000) + "^? $.", 14);
+        String above = before(1000001);
+        r.faulty("c $p t $= ( l0 ) A " + above.substring(0, above.length() - 1) + "^" + above.substring(above.length() - 1) + "? $.", 5);
+    }
+
+    /** The letters that stand for a number before the last letter. */
+    private static String before(int n) {
+        String letters = Model.letters(20 * n + 1);
+        return letters.substring(0, letters.length() - 1);
     }
 
     private static void piles() {
@@ -272,6 +281,13 @@ public final class LimitsTest {
             r.prints(3, 3, 12000, "t u u u u");
         }
         r.due("check()", r.x.check(), 1);
+        Runs q = new Runs("a long row printed often");
+        q.reads("$c t $. $v x $. fx $f t x $. x3 $a t x x x $. x37 $a t " + Runs.times("x ", 37)
+            + "$. ${ ha $e t x $. hb $e t x $. both $a t $. $} th $p t $= ( fx x3 x37 both ) ABBBCZEED $.");
+        for (int n = 0; n < 50; n++) {
+            q.prints(3, 6, 4, "t " + Runs.times("x ", 998) + "x");
+            q.prints(3, 6, 5, "t");
+        }
     }
 
     /** Each theorem puts the row of the one before it to use twice: sizes 4, 10, 22, .. */

@@ -300,6 +300,7 @@ public final class PromisesTest {
         r.due("trees of 60 symbols", r.x.trees(25), 1);
         r.due("trees of 61 symbols", r.x.trees(26), -2);
         r.due("print(6)", r.x.print(6, 25, 0), 2 + 58 * 3);
+        r.prints(7, 25, 0, b + "p");
         r.printsNot(6, 26, 0, -2);
         r.printsNot(7, 26, 0, -2);
         r.due("definition(26)", r.x.definition(26), -2);
