@@ -3016,7 +3016,7 @@ public final class ProofLibrary {
             if (definedBy[r] == 0 || definedBy[r] > limit) {
                 for (int p = library.at[r] + 1; p < library.at[r + 1] && fits; p++) {
                     int f = library.floats[p];
-                    fits = f == NONE ? compose(library.text[p]) : composeRow(first + assertions.placeInFrame(r, f));
+                    fits = f == NONE ? composeSymbol(library.text[p]) : composeRow(first + assertions.placeInFrame(r, f));
                 }
                 return fits;
             }
@@ -3024,12 +3024,12 @@ public final class ProofLibrary {
                 return false;
             }
             for (int k = bodyAt[r]; k < bodyAt[r] + bodySize[r] && fits; k++) {
-                fits = bodies[k] < SLOT ? compose(bodies[k]) : composeRow(first + bodies[k] - SLOT);
+                fits = bodies[k] < SLOT ? composeSymbol(bodies[k]) : composeRow(first + bodies[k] - SLOT);
             }
             return fits;
         }
 
-        private boolean compose(int s) {
+        private boolean composeSymbol(int s) {
             if (pile.builtSize + 1 >= WITHOUT_LENGTH) {
                 return false;
             }

@@ -246,6 +246,8 @@ public final class LimitsTest {
         r.faulty("l $p t $= ( ax ) " + Runs.times("A", 200) + "^A $.", 5);
         r.faulty("l $p t $= ( ax ) " + Runs.times("A", 200) + " ^$.", 18);
         r.faulty("l $p t $= ax " + Runs.times("ax ", 199) + "^ax $.", 5);
+        r.faulty("l $p t $= ( ax ) AZ" + Runs.times("B", 199) + "^B $.", 5);
+        r.faulty("l $p t $= ( ax ) AZ" + Runs.times("B", 199) + " ^$.", 18);
         /* The row of 2 ^ 9 symbols and its type; the next would have 1025. */
         r.faulty("l $p t x $= ( two ) ABBBBBBBBB^B $.", 5);
         r.faulty("l $p t x $= ( two ) ABBBBBBBBB ^$.", 19);
@@ -269,6 +271,7 @@ public final class LimitsTest {
         p.faulty("l $p t x $= ( x3 x37 none ) " + Runs.times("ABBBC", 20) + Runs.times("ABBBCZ", 10) + " ^$.", 18);
         p.faulty("l $p t x $= ( x3 x37 none ) " + Runs.times("ABBBC", 20) + Runs.times("ABBBCZ", 10) + "^D $.", 5);
         p.faulty("l $p t x $= ( x3 x37 none ) " + Runs.times("ABBBC", 21) + Runs.times("ABBBCZ", 9) + "ABBB^CZ $.", 5);
+        p.faulty("l $p t x $= ( x3 x37 none ) " + Runs.times("ABBBC", 21) + Runs.times("ABBBCZ", 9) + "ABBB^C $( $) Z $.", 5);
     }
 
     /** Rows that are used up make room: 60000 symbols in all, five at a time. */
