@@ -223,6 +223,24 @@ public final class EdgesTest {
         r.due("find gone", r.finds("gone", 0), -1);
     }
 
+    /** A thousand names that differ in one character, found again each. */
+    private static void findMany() {
+        Runs r = new Runs("many names");
+        StringBuilder text = new StringBuilder("$v ");
+        String[] names = new String[1000];
+        for (int n = 0; n < 1000; n++) {
+            /* Neither '$' nor the mark of a fault. */
+            int first = n % 89 + 37;
+            names[n] = (char) (first < '^' ? first : first + 1) + "n" + (char) (n / 89 + '0');
+            text.append(names[n]).append(' ');
+        }
+        r.reads(text + "$.");
+        for (int n = 0; n < 1000; n++) {
+            r.due("find(1) of " + names[n], r.finds(names[n], 1), n);
+            r.prints(1, n, 0, names[n]);
+        }
+    }
+
     /** Promises 12 to 14: frames of axioms, theorems, open ones; none of hypotheses. */
     private static void frames() {
         Runs r = new Runs("frames");
@@ -511,6 +529,7 @@ public final class EdgesTest {
         wrongNumbers();
         symbols();
         find();
+        findMany();
         frames();
         rests();
         rows();

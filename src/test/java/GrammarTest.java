@@ -182,6 +182,24 @@ public final class GrammarTest {
         r.due("check()", r.x.check(), 1);
     }
 
+    /** Two sorts with trees all over a row of sixty symbols. */
+    private static void twoSorts() {
+        Runs r = new Runs("two sorts");
+        r.reads("$c |- wff s l i j k $. $v x y $. fx $f wff x $. fy $f s y $. wk $a wff k $. sj $a s j $. wl $a wff l y x $. si $a s i x y $. "
+            + "a $a |- " + Runs.times("l j ", 29) + "k $. b $a |- l " + Runs.times("i k ", 28) + "j k $. "
+            + "c $a |- " + Runs.times("l i k j ", 14) + "l j k $. d $a |- " + Runs.times("l i k ", 14) + "k $. ");
+        tree(r, "a", "wk" + Runs.times(" sj wl", 29));
+        for (int n = 0; n < 29; n++) {
+            r.reads("a" + n + " $a |- " + Runs.times("l j ", n) + "k $. ");
+            tree(r, "a" + n, "wk" + Runs.times(" sj wl", n));
+        }
+        tree(r, "b", "wk " + Runs.times("wk ", 28) + "sj" + Runs.times(" si", 28) + " wl");
+        tree(r, "c", "wk sj wl" + Runs.times(" wk sj si wl", 14));
+        trees(r, "d", 0);
+        r.prints(7, r.finds("c", 0), 0, "|- " + Runs.times("l i k j ", 14) + "l j k");
+        r.due("check()", r.x.check(), 1);
+    }
+
     private static final String TERMS = "$c |- wff s = ~ ( ) n d d2 d3 d4 k l z $. $v a b c $. fa $f s a $. fb $f s b $. fc $f s c $. sk $a s k $. "
         + "sn $a s n a $. sp $a s ( a b ) $. we $a wff a = b $. wt $a wff b ~ a $. sd $a s d a $. s2 $a s d2 a b $. s3 $a s d3 $. s4 $a s d4 a $. wl $a wff l a $. ";
 
@@ -498,6 +516,7 @@ public final class GrammarTest {
         provable();
         howMany();
         sixty();
+        twoSorts();
         definitions();
         usedBefore();
         withoutDefinitions();

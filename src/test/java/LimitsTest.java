@@ -98,6 +98,25 @@ public final class LimitsTest {
         r.due("check()", r.x.check(), 1);
     }
 
+    /** The last statement that there can be is a theorem that rests on the one before. */
+    private static void lastStatement() {
+        Runs r = new Runs("the last statement");
+        r.reads("$c a " + numbered("c#", 0, 999) + "$. ${ h $e a $. on $a a $. $} " + numbered("l# $a a $.", 2, 1498));
+        r.reads("m $p a $= l1400 on $. n $p a $= m on $.");
+        r.due("kind(1499)", r.x.kind(1499), 3);
+        r.due("rows(1499)", r.x.rows(1499), 2);
+        r.due("rests(1499, 1498)", r.x.rests(1499, 1498), 1);
+        r.due("rests(1499, 1499)", r.x.rests(1499, 1499), 0);
+        r.due("rests(1499, 1400)", r.x.rests(1499, 1400), 1);
+        r.due("frame(1499, 2)", r.x.frame(1499, 2), 3);
+        r.due("frame(1498, 2)", r.x.frame(1498, 2), 2);
+        r.prints(4, 1499, 0, "( m on ) AB");
+        r.prints(2, 1499, 0, "a");
+        r.due("trees(1499)", r.x.trees(1499), 0);
+        r.due("check()", r.x.check(), 1);
+        r.faulty("^o $p a $= ? $.", 5);
+    }
+
     private static void lengths() {
         Runs r = new Runs("lengths");
         r.faulty("$c a $. l $a " + Runs.times("a ", 300) + "^a $.", 5);
@@ -202,6 +221,33 @@ public final class LimitsTest {
         r.reads("o $p t $= ? $.");
         r.due("rows(m)", r.x.rows(3), 1);
         r.due("check()", r.x.check(), 1);
+    }
+
+    /** A proof of 20000 rows, each but the first from the one before, is told and checked as any other. */
+    private static void allSteps() {
+        Runs r = new Runs("all steps in one proof");
+        r.reads("$c t $. ax $a t $. ${ h $e t $. on $a t $. $}");
+        r.reads("th $p t $= ( ax on ) A" + Runs.times("B", 19999) + " $.");
+        r.due("count(8)", r.x.count(8), 20000);
+        r.due("rows(th)", r.x.rows(3), 20000);
+        r.due("row(th, 19999)", r.x.row(3, 19999), 2);
+        r.due("from(th, 19999, 0)", r.x.from(3, 19999, 0), 19998);
+        r.due("from(th, 0, 0)", r.x.from(3, 0, 0), -1);
+        r.due("row(th, 20000)", r.x.row(3, 20000), -1);
+        r.due("size(th)", r.x.size(3), 20000);
+        r.prints(3, 3, 19999, "t");
+        r.prints(4, 3, 0, "( ax on ) A" + Runs.times("B", 19999));
+        r.printsNot(5, 3, 0, -2);
+        r.due("check()", r.x.check(), 1);
+        r.faulty("m $p t $= ^ax $.", 5);
+        r.reads("m $p t $= ? $.");
+        Runs q = new Runs("all steps in plain proofs");
+        q.reads("$c t $. ax $a t $. ${ h $e t $. k $e t $. two $a t $. $} o $p t $= ( ax ) " + Runs.times("A", 19993) + "? $.");
+        q.reads("th $p t $= ax ax ax two ax two two $.");
+        q.due("count(8)", q.x.count(8), 20000);
+        q.prints(4, 5, 0, "( ax two ) AAABABB");
+        q.prints(5, 5, 0, "ax ax ax two ax two two");
+        q.due("check()", q.x.check(), 1);
     }
 
     private static void packedProofs() {
@@ -404,12 +450,14 @@ public final class LimitsTest {
         names();
         symbols();
         statements();
+        lastStatement();
         lengths();
         firstSymbols();
         scopes();
         activePairs();
         frames();
         steps();
+        allSteps();
         packedProofs();
         piles();
         sizes();

@@ -153,6 +153,29 @@ public final class TermsTest {
         r.faulty("o $p t $= ^h $.", 13);
         r.faulty("o $p t $= ^o $.", 13);
         r.faulty("o $p t $= ^p $. p $a t $.", 13);
+        variables();
+    }
+
+    /** A variable's scope is its own, whatever was declared within, before or again. */
+    private static void variables() {
+        Runs r = new Runs("variables");
+        r.reads("$v x y $. ${ $v z $. $} $d x y $. ${ $v z w $. ${ $v u $. $d x u $. $} $d z w $. $} $c t $. fx $f t x $. fy $f t y $. ${ $v z $. fz $f t z $. a $a t z $. $} b $a t x y $.");
+        r.due("variable(z)", r.x.variable(2), 1);
+        r.due("variable(w)", r.x.variable(3), 1);
+        r.due("variable(u)", r.x.variable(4), 1);
+        r.due("frame(a, 0)", r.x.frame(3, 0), 1);
+        r.due("frame(b, 1)", r.x.frame(4, 1), 1);
+        String[] inactive = {"z", "w", "u"};
+        for (String v : inactive) {
+            r.faulty("$d x ^" + v + " $.", 9);
+            r.faulty("l $a t ^" + v + " $.", 9);
+            r.faulty("$c ^" + v + " $.", 7);
+        }
+        r.reads("${ $v w z $. $} $v z $. ${ $v u $. $} $d x y z $. ${ $v u w $. $} $d z x $.");
+        r.faulty("$v ^z $.", 7);
+        r.faulty("${ ${ $v ^x $. $} $}", 7);
+        r.reads("fz2 $f t z $. c $a t x z $.");
+        r.due("frame(c, 1)", r.x.frame(6, 1), 1);
     }
 
     /** Mandatory: all active essential hypotheses, the active floating ones of variables in it or in these; their pairs. */
