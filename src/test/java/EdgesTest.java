@@ -241,6 +241,23 @@ public final class EdgesTest {
         }
     }
 
+    /** Names that begin like others; a sum over the characters alone might mix some of them up. */
+    private static void findBeginnings() {
+        Runs r = new Runs("beginnings of names");
+        String[] longer = {"acvn", "ahlm", "alpn", "apcs", "atgr", "!!I", "#fm", "&ab"};
+        String[] shorter = {"acv", "ahl", "alp", "apc", "atg", "!", "#", "&"};
+        r.reads("$v " + String.join(" ", longer) + " $.");
+        for (int n = 0; n < longer.length; n++) {
+            r.due("find(1) of " + longer[n], r.finds(longer[n], 1), n);
+            r.due("find(1) of " + shorter[n], r.finds(shorter[n], 1), -1);
+        }
+        r.reads("$c " + String.join(" ", shorter) + " $.");
+        for (int n = 0; n < longer.length; n++) {
+            r.due("find(1) of " + longer[n], r.finds(longer[n], 1), n);
+            r.due("find(1) of " + shorter[n], r.finds(shorter[n], 1), 8 + n);
+        }
+    }
+
     /** Promises 12 to 14: frames of axioms, theorems, open ones; none of hypotheses. */
     private static void frames() {
         Runs r = new Runs("frames");
@@ -530,6 +547,7 @@ public final class EdgesTest {
         symbols();
         find();
         findMany();
+        findBeginnings();
         frames();
         rests();
         rows();

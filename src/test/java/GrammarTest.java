@@ -286,6 +286,7 @@ public final class GrammarTest {
         defined(x + "y $a |- l d k $. ", "sd");
         defined("y $a |- l d n " + n55 + "k $. " + x, "");
         defined("y $a |- l d n n " + n55 + "k $. " + x, "sd");
+        defined("y $a |- l d n " + n55 + "k k $. " + x, "sd");
         defined("s5 $a s n n a $. y $a |- l d n n k $. " + x, "sd");
         defined("s5 $a s n n a $. y $a |- l d n k $. " + x, "");
         defined("y $a |- l d n n k $. s5 $a s n n a $. " + x, "");

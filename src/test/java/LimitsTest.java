@@ -101,7 +101,7 @@ public final class LimitsTest {
     /** The last statement that there can be is a theorem that rests on the one before. */
     private static void lastStatement() {
         Runs r = new Runs("the last statement");
-        r.reads("$c a " + numbered("c#", 0, 999) + "$. ${ h $e a $. on $a a $. $} " + numbered("l# $a a $.", 2, 1498));
+        r.reads("$c a $. ${ h $e a $. on $a a $. $} " + numbered("l# $a a $.", 2, 1498));
         r.reads("m $p a $= l1400 on $. n $p a $= m on $.");
         r.due("kind(1499)", r.x.kind(1499), 3);
         r.due("rows(1499)", r.x.rows(1499), 2);
@@ -115,6 +115,10 @@ public final class LimitsTest {
         r.due("trees(1499)", r.x.trees(1499), 0);
         r.due("check()", r.x.check(), 1);
         r.faulty("^o $p a $= ? $.", 5);
+        r.faulty("$c b $. ^o $a b $.", 5);
+        r.faulty("^+ $a a $.", 5);
+        r.faulty("^m $a a $.", 5);
+        r.reads("$c b $. $v x $. ${ $} $( o $a b $. $)");
     }
 
     private static void lengths() {
@@ -214,6 +218,7 @@ public final class LimitsTest {
         r.reads("m $p t $= ax $.");
         r.faulty("n $p t $= ax ^ax $.", 5);
         r.faulty("n $p t $= ax ^nothing $.", 5);
+        r.faulty("n $p t $= ax ^a+b $.", 13);
         r.faulty("n $p t $= ax ? ? $. ^$.", 4);
         r.reads("n $p t $= ax ? $.");
         r.due("count(8)", r.x.count(8), 20000);
@@ -291,6 +296,9 @@ public final class LimitsTest {
         r.reads("$c t $. $v x y $. fx $f t x $. ax $a t $. two $a t x x $. " + "${ ex $e t x $. ey $e t $. drop $a t x $. $} ");
         r.faulty("l $p t $= ( ax ) " + Runs.times("A", 200) + "^A $.", 5);
         r.faulty("l $p t $= ( ax ) " + Runs.times("A", 200) + " ^$.", 18);
+        r.faulty("l $p t $= ( ax ) " + Runs.times("A", 200) + "^AZ $.", 5);
+        r.faulty("l $p t $= ( ax ) " + Runs.times("A", 199) + "AZ ^$.", 18);
+        r.faulty("l $p t $= ( ax ) " + Runs.times("A", 199) + "AZ^B $.", 5);
         r.faulty("l $p t $= ax " + Runs.times("ax ", 199) + "^ax $.", 5);
         r.faulty("l $p t $= ( ax ) AZ" + Runs.times("B", 199) + "^B $.", 5);
         r.faulty("l $p t $= ( ax ) AZ" + Runs.times("B", 199) + " ^$.", 18);
